@@ -27,8 +27,8 @@ public final class PrettyShapes {
     private static final int LEAST_INT = 0x80000000;
 
     private final Doc doc;
-    private final Frontiers within;
-    private final Frontiers boundless;
+    private final Frontiers frontiers;
+    private final Shapes bestShape;
     private final Ways ways;
     private final Setting setting;
     private final Sheet[] sheets;
@@ -36,13 +36,13 @@ public final class PrettyShapes {
     private int width;
     private int finding;
 
+    private boolean hasBest;
     private boolean over;
-    private int bestPlace;
 
     public PrettyShapes() {
         doc = new Doc();
-        within = new Frontiers();
-        boundless = new Frontiers();
+        frontiers = new Frontiers();
+        bestShape = new Shapes(1);
         ways = new Ways();
         setting = new Setting();
         sheets = new Sheet[SHEETS];
@@ -50,7 +50,6 @@ public final class PrettyShapes {
             sheets[s] = new Sheet();
         }
         width = FIRST_WIDTH;
-        bestPlace = NONE;
     }
 
     // ---- the text, the width
@@ -128,7 +127,7 @@ public final class PrettyShapes {
             case 1:
                 return doc.size[part];
             case 2:
-                return within.sizeOf(part);
+                return frontiers.sizeOf(part);
             default:
                 return doc.above[part];
         }
@@ -138,17 +137,17 @@ public final class PrettyShapes {
         if (!doc.hasPart(part) || i < 0 || i >= WAYS || what < 0 || what > 3) {
             return BAD;
         }
-        if (i >= within.sizeOf(part)) {
+        if (i >= frontiers.sizeOf(part)) {
             return NONE;
         }
-        return within.shapes.tell(part * WAYS + i, what);
+        return frontiers.shapes.tell(part * WAYS + i, what);
     }
 
     public int tried(int what) {
         if (what < 0 || what > 1) {
             return BAD;
         }
-        return what == 0 ? within.tries : within.letGo;
+        return what == 0 ? frontiers.tries : frontiers.letGo;
     }
 
     // ---- the best
@@ -157,13 +156,13 @@ public final class PrettyShapes {
         if (what < 0 || what > 4) {
             return BAD;
         }
-        if (bestPlace == NONE) {
+        if (!hasBest) {
             return NONE;
         }
         if (what == 4) {
             return over ? 1 : 0;
         }
-        return tellBest(what);
+        return bestShape.tell(0, what);
     }
 
     public int line(int line, int column) {
@@ -205,10 +204,10 @@ public final class PrettyShapes {
     }
 
     public int spare() {
-        if (bestPlace == NONE) {
+        if (!hasBest) {
             return 0;
         }
-        int lines = tellBest(0);
+        int lines = bestShape.tell(0, 0);
         int bits = 0;
         for (int c = 0; c < doc.choices; c++) {
             int bit = 1 << c;
@@ -319,7 +318,7 @@ public final class PrettyShapes {
             case 3:
                 return width;
             case 4:
-                return within.sizeOf(0);
+                return frontiers.sizeOf(0);
             case 5:
                 return tried(0);
             case 6:
@@ -405,23 +404,29 @@ public final class PrettyShapes {
     }
 
     private void chooseBest() {
-        within.make(doc, width);
-        over = false;
-        bestPlace = within.fewestLines();
-        if (doc.parts > 0 && bestPlace == NONE) {
-            over = true;
-            boundless.make(doc, BOUNDLESS);
-            bestPlace = boundless.leastMost();
+        frontiers.make(doc, width);
+        int at = frontiers.fewestLines();
+        over = doc.parts > 0 && at == NONE;
+        if (over) {
+            frontiers.make(doc, BOUNDLESS);
+            at = frontiers.leastMost();
         }
+        hasBest = at != NONE;
         setting.clear();
-        if (bestPlace != NONE) {
-            ways.shapeParts(doc, tellBest(3));
-            setting.place(doc, ways.parts);
+        if (hasBest) {
+            keepBest(at);
+        }
+        if (over) {
+            // The questions about FRONTIERS are about those for WIDTH.
+            frontiers.make(doc, width);
         }
     }
 
-    private int tellBest(int what) {
-        return over ? boundless.shapes.tell(bestPlace, what) : within.shapes.tell(bestPlace, what);
+    private void keepBest(int at) {
+        Shapes from = frontiers.shapes;
+        bestShape.set(0, from.tell(at, 0), from.tell(at, 1), from.tell(at, 2), from.tell(at, 3));
+        ways.shapeParts(doc, bestShape.tell(0, 3));
+        setting.place(doc, ways.parts);
     }
 
     private Sheet sheetOf(int s) {

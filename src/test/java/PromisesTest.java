@@ -250,6 +250,10 @@ public final class PromisesTest {
         shape("pairs", pairs, 0, 1, 3, 4, 4, 2);
         shape("pairs", pairs, 0, 2, NONE);
         shape("bits of a PART", pairs, 8, 1, 2, 4, 4, 2);
+        shape("LAST counts", typed("CcVca"), 0, 0, 1, 3, 3, 0);
+        shape("LAST counts", typed("CcVca"), 0, 1, 2, 1, 3, 1);
+        shape("a CHOICE in a CHOICE", typed("CCHabVabi"), 0, 0, 1, 3, 3, 0);
+        shape("a CHOICE in a CHOICE", typed("CCHabVabi"), 0, 1, 2, 2, 2, 2);
         PrettyShapes flat = typed("FCVabHab");
         shape("FLAT", flat, 0, 0, 1, 3, 3, 1);
         shape("FLAT", flat, 0, 1, NONE);
@@ -288,6 +292,7 @@ public final class PromisesTest {
         best("of like LINES the least MOST", typed("CVeaVcc"), 2, 3, 3, 1, 0);
         best("OVER: the least MOST", typed("CHabVaVab", 1), 3, 2, 2, 1, 1);
         best("OVER: of like MOST the fewest LINES", typed("CVeVaaVee", 4), 2, 5, 5, 1, 1);
+        best("OVER: one WORD", typed("i", 8), 1, 9, 9, 0, 1);
         best("no LAYOUT", typed("FVab"), NONE, NONE, NONE, NONE, NONE);
         best("no DOC", new PrettyShapes(), NONE, NONE, NONE, NONE, NONE);
         best("CHOICES not in it are 0", typed("CaCbb"), 1, 1, 1, 0, 0);
@@ -337,14 +342,17 @@ public final class PromisesTest {
         is("FLAT does not allow it", flat.way(0, 0), NONE);
         is("FLAT is not in it", flat.way(1, 0), 1);
         is("FLAT around", typed("HaFCVabHab").way(0, 2), NONE);
+        is("FLAT in the second", typed("VaFVab").way(0, 0), NONE);
+        is("FLAT in the first", typed("VFVaba").way(0, 0), NONE);
+        is("FLAT under PUSHED", typed("N1FVab").way(0, 0), NONE);
         is("FLAT around", typed("HaFCVabHab").way(1, 2), 4);
     }
 
     private static void haste() {
         promise = 14;
-        PrettyShapes x = typed("CVabHab");
-        int[] wide = {0, 2, 2};
-        for (int w = 0; w < 3; w++) is("haste(" + w + ") of CVabHab", x.haste(w), wide[w]);
+        PrettyShapes x = typed("CVdcHab");
+        int[] wide = {0, 2, 4};
+        for (int w = 0; w < 3; w++) is("haste(" + w + ") of CVdcHab", x.haste(w), wide[w]);
         PrettyShapes y = typed("CCdab", 2);
         int[] narrow = {2, 1, 1};
         for (int w = 0; w < 3; w++) is("haste(" + w + ") of CCdab for 2", y.haste(w), narrow[w]);
