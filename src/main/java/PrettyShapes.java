@@ -6,6 +6,7 @@ public final class PrettyShapes {
     public static final int NONE = -1, BAD = -2, NOT = -3, FULL = -4;
 
     private static final int BYTES = 40;
+    private static final int MOST_BYTE = 255;
     private static final int CHOICES = 6;
     private static final int WAYS = 64;
     private static final int WIDEST = 99;
@@ -55,7 +56,7 @@ public final class PrettyShapes {
     // ---- the text, the width
 
     public int type(int b) {
-        if (b < 0 || b > 255) {
+        if (!isByte(b)) {
             return BAD;
         }
         if (!doc.append(b)) {
@@ -107,7 +108,8 @@ public final class PrettyShapes {
             return found(NULL);
         }
         int came = 0;
-        while (came < sheet.size && doc.append(sheet.itemAt(came) & 255)) {
+        // Items of any FORM may hold numbers that type() would refuse: the first of them ends it.
+        while (came < sheet.size && isByte(sheet.itemAt(came)) && doc.append(sheet.itemAt(came))) {
             came++;
         }
         readDoc();
@@ -431,6 +433,10 @@ public final class PrettyShapes {
 
     private Sheet sheetOf(int s) {
         return s < 0 || s >= sheets.length ? null : sheets[s];
+    }
+
+    private static boolean isByte(int v) {
+        return v >= 0 && v <= MOST_BYTE;
     }
 
     private static boolean isForm(int form) {

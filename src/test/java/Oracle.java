@@ -274,9 +274,8 @@ final class Oracle {
     int read(int s) {
         if (no(s, 0, 3)) return BAD;
         if (sheets[s] == null) return found(1);
-        int n = Math.min(size(sheets[s]), 40 - text.length());
-        for (int i = 0; i < n; i++) text += (char) (item(sheets[s], i) & 255);
-        return n;
+        for (int i = 0; i < size(sheets[s]); i++) if (type(item(sheets[s], i)) < 0) return i;
+        return size(sheets[s]);
     }
 
     int part(int part, int what) {

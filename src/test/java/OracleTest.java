@@ -144,7 +144,8 @@ public final class OracleTest {
 
     private boolean sheets() {
         int s = near(0, 3), t = near(0, 3), form = near(0, 2), i = dice.nextInt(3) == 0 ? near(-1, 60) : upTo(0, 12);
-        int v = dice.nextInt(3) == 0 ? dice.nextInt() : "HVCNF123abcdi".charAt(dice.nextInt(13));
+        int odd = dice.nextInt(24);
+        int v = odd < 2 ? dice.nextInt() : odd < 5 ? near(0, 255) : "HVCNF123abcdi".charAt(dice.nextInt(13));
         switch (dice.nextInt(9)) {
             case 0: {
                 int n = dice.nextInt(3) == 0 ? near(0, 60) : near(0, 20);

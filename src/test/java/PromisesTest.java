@@ -181,22 +181,46 @@ public final class PromisesTest {
         x.put(0, 0, 2, 'b');
         is("read(0)", x.read(0), 3);
         best("Hab", x, 1, 3, 3, 0, 0);
-        x.undo();
-        x.sheet(1, 2, 1);
-        x.put(1, 2, 0, 256 + 'c');
-        is("read(1)", x.read(1), 1);
-        best("Hac", x, 1, 4, 4, 0, 0);
         x.sheet(2, 1, 0);
         is("read(2), no items", x.read(2), 0);
         x.sheet(3, 0, 60);
         is("read(3), as many as may", x.read(3), 37);
         is("count(0)", x.count(0), 40);
         is("read(3), full", x.read(3), 0);
-        x.wipe();
-        x.sheet(3, 0, 1);
-        x.put(3, 0, 0, -1);
-        is("read of byte -1", x.read(3), 1);
-        is("its fault", x.fault(), 0);
+        is("count(8), no FINDING", x.count(8), 1);
+        readUpToNoByte();
+    }
+
+    private static void readUpToNoByte() {
+        int[][] noBytes = {{0, -1}, {0, -128}, {0, 200}, {1, -1}, {1, 256}, {1, 32767}, {2, -1}, {2, 256}, {2, 256 + 'c'},
+            {2, Integer.MIN_VALUE}, {2, Integer.MAX_VALUE}};
+        for (int[] form : noBytes) {
+            PrettyShapes x = new PrettyShapes();
+            String told = "FORM " + form[0] + ", item " + form[1] + ": ";
+            x.sheet(1, form[0], 4);
+            x.put(1, form[0], 0, form[1]);
+            is(told + "read, the first", x.read(1), 0);
+            is(told + "count(0)", x.count(0), 0);
+            x.put(1, form[0], 0, 'V');
+            x.put(1, form[0], 1, 'c');
+            x.put(1, form[0], 2, form[1]);
+            x.put(1, form[0], 3, 'd');
+            is(told + "read, the third", x.read(1), 2);
+            is(told + "count(0)", x.count(0), 2);
+            is(told + "type(d)", x.type('d'), 3);
+            best(told + "Vcd", x, 2, 4, 4, 0, 0);
+            x.put(1, form[0], 2, 'e');
+            is(told + "read, all", x.read(1), 4);
+            is(told + "count(0)", x.count(0), 7);
+        }
+        for (int form = 1; form <= 2; form++) {
+            PrettyShapes x = new PrettyShapes();
+            x.sheet(0, form, 2);
+            x.put(0, form, 0, 'a');
+            x.put(0, form, 1, 255);
+            is("read, 255 is a byte", x.read(0), 2);
+            is("its fault", x.fault(), 1);
+        }
     }
 
     private static void part() {
