@@ -1,53 +1,5 @@
 /** For each promise, by its number: ordinary calls, the edges that the document names, wrong ones. */
-public final class PromisesTest {
-    private static final int NONE = -1, BAD = -2, NOT = -3, FULL = -4;
-    private static final int NULL = -11, INDEX = -12, CAST = -13, STORE = -14, SIZE = -15;
-    private static final int LEAST = Integer.MIN_VALUE;
-    private static final int FAR = Integer.MAX_VALUE;
-
-    private static int promise = 0;
-    private static int passed = 0;
-    private static int failed = 0;
-
-    private static void is(String what, long got, long want) {
-        if (got == want) {
-            passed++;
-            return;
-        }
-        failed++;
-        System.out.println("promise " + promise + ": " + what + " answered " + got + ", due is " + want);
-    }
-
-    private static PrettyShapes typed(String text) {
-        PrettyShapes x = new PrettyShapes();
-        for (int i = 0; i < text.length(); i++) x.type(text.charAt(i));
-        return x;
-    }
-
-    private static PrettyShapes typed(String text, int width) {
-        PrettyShapes x = typed(text);
-        x.width(width);
-        return x;
-    }
-
-    private static void shape(String what, PrettyShapes x, int part, int i, int... due) {
-        for (int w = 0; w < due.length; w++) is(what + " frontier(" + part + ", " + i + ", " + w + ")", x.frontier(part, i, w), due[w]);
-    }
-
-    private static void best(String what, PrettyShapes x, int... due) {
-        for (int w = 0; w < due.length; w++) is(what + " best(" + w + ")", x.best(w), due[w]);
-    }
-
-    private static void page(String what, PrettyShapes x, String... lines) {
-        for (int l = 0; l < lines.length; l++) {
-            is(what + " line(" + l + ", NONE)", x.line(l, NONE), lines[l].length());
-            for (int c = 0; c < lines[l].length(); c++) is(what + " line(" + l + ", " + c + ")", x.line(l, c), lines[l].charAt(c));
-            is(what + " behind line " + l, x.line(l, lines[l].length()), NONE);
-        }
-        is(what + " behind the lines", x.line(lines.length, NONE), NONE);
-        is(what + " behind the lines, column 0", x.line(lines.length, 0), NONE);
-    }
-
+public final class PromisesTest extends Check {
     public static void main(String[] args) {
         newObject();
         type();
@@ -74,8 +26,7 @@ public final class PromisesTest {
         write();
         count();
         digest();
-        System.out.println("PromisesTest: " + passed + " passed, " + failed + " failed");
-        if (failed != 0) System.exit(1);
+        finish("PromisesTest");
     }
 
     private static void newObject() {
