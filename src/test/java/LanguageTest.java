@@ -60,6 +60,10 @@ public final class LanguageTest {
             if (Modifier.isStatic(f.getModifiers())) holds("final: " + f, Modifier.isFinal(f.getModifiers()));
         }
         holds("the constants: " + constants, constants.equals(new TreeSet<>(Set.of("NONE-1", "BAD-2", "NOT-3", "FULL-4"))));
+        holds("some twelve classes", c.getDeclaredClasses().length < 12);
+        int fields = 0;
+        for (Field f : c.getDeclaredFields()) if (!Modifier.isStatic(f.getModifiers())) fields++;
+        holds("some twenty fields: " + fields, fields <= 20);
         for (Class<?> inner : c.getDeclaredClasses()) {
             holds("static: " + inner, Modifier.isStatic(inner.getModifiers()) && !Modifier.isPublic(inner.getModifiers()));
             holds("some twenty fields: " + inner, inner.getDeclaredFields().length <= 20);
@@ -77,6 +81,11 @@ public final class LanguageTest {
             Matcher m = Pattern.compile(isWord ? "\\b" + never + (never.endsWith(")") ? "" : "\\b") : never).matcher(code);
             holds("no " + never, !m.find());
         }
+        // Rule 4: of the library only what stands there; names of more than one sign with small ones are classes.
+        Matcher used = Pattern.compile("\\b[A-Z][A-Z0-9]*[a-z]\\w*").matcher(code);
+        Set<String> own = new TreeSet<>(Set.of("PrettyShapes", "Math", "System"));
+        for (Class<?> inner : PrettyShapes.class.getDeclaredClasses()) own.add(inner.getSimpleName());
+        while (used.find()) holds("the class " + used.group(), own.contains(used.group()));
         int length = 0;
         for (String line : code.split("\n")) {
             length = line.matches(" {4}(?: {4})?(?:public|private|void|int|boolean|static|[A-Z]\\w*\\().*\\{") ? 0 : length + 1;

@@ -1,9 +1,14 @@
+import java.util.ArrayList;
+import java.util.List;
 import java.util.Random;
 
-/** Runs of calls drawn from a fixed seed: every answer is compared with the Oracle's. */
+/** Every small text and DOC, and runs of calls drawn from a fixed seed: every answer is compared with the Oracle's. */
 public final class OracleTest {
     private static final int RUNS = 400;
     private static final int CALLS = 512;
+    private static final int SMALL_TEXT = 4;
+    private static final int SMALL_DOC = 5;
+    private static final int SMALL_WIDTH = 5;
     private static int wrong = 0;
     private static int passed = 0;
 
@@ -16,14 +21,60 @@ public final class OracleTest {
     private OracleTest(long seed) { dice = new Random(seed); }
 
     public static void main(String[] args) {
+        smallTexts("", SMALL_TEXT);
+        smallDocs();
         int runs = Integer.getInteger("runs", RUNS);
         for (int run = 0; run < runs && wrong < 5; run++) {
             OracleTest t = new OracleTest(1000 + run);
-            boolean good = run % 4 == 3 ? t.sheetRun() : t.docRun();
-            if (good) passed++; else wrong++;
+            counts(run % 4 == 3 ? t.sheetRun() : t.docRun());
         }
         System.out.println("OracleTest: " + passed + " passed, " + wrong + " failed");
         if (wrong != 0) System.exit(1);
+    }
+
+    private static OracleTest on(String text) {
+        OracleTest t = new OracleTest(0);
+        for (int i = 0; i < text.length(); i++) {
+            t.x.type(text.charAt(i));
+            t.o.type(text.charAt(i));
+        }
+        t.told.append("the text '").append(text).append("'\n");
+        return t;
+    }
+
+    private static void counts(boolean good) {
+        if (good) passed++; else wrong++;
+    }
+
+    /** FAULTS and PARTS of every text that begins so, with signs of each kind. */
+    private static void smallTexts(String begin, int more) {
+        OracleTest t = on(begin);
+        counts(t.same("fault()", t.x.fault(), t.o.fault()) && t.same("count(1)", t.x.count(1), t.o.count(1)));
+        for (char c : "abHVCNF19z".toCharArray()) if (more > 0 && wrong < 5) smallTexts(begin + c, more - 1);
+    }
+
+    private static void smallDocs() {
+        List<List<String>> docs = new ArrayList<>();
+        docs.add(new ArrayList<>());
+        for (int bytes = 1; bytes <= SMALL_DOC; bytes++) {
+            List<String> all = new ArrayList<>();
+            if (bytes == 1) all.addAll(List.of("a", "b", "c"));
+            for (String a : docs.get(bytes - 1)) all.add("F" + a);
+            if (bytes > 2) for (String a : docs.get(bytes - 2)) all.add("N1" + a);
+            for (int first = 1; first <= bytes - 2; first++)
+                for (String a : docs.get(first)) for (String b : docs.get(bytes - 1 - first)) all.addAll(List.of("H" + a + b, "V" + a + b, "C" + a + b));
+            docs.add(all);
+            for (String doc : all) if (wrong < 5) smallDoc(doc);
+        }
+    }
+
+    private static void smallDoc(String doc) {
+        OracleTest t = on(doc);
+        boolean good = true;
+        for (int v = 1; v <= SMALL_WIDTH && good; v++) {
+            good = t.same("width(" + v + ")", t.x.width(v), t.o.width(v)) && t.same("digest()", t.x.digest(), t.o.digest());
+        }
+        counts(good);
     }
 
     private boolean same(String call, long got, long want) {

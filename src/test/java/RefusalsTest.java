@@ -1,40 +1,11 @@
-import java.util.ArrayList;
-import java.util.List;
-
 /**
  * Every refusal of every promise, by its number: what it answers, that it is the first that fits where several would,
  * and that it leaves everything as it was (a FINDING: all but count() 8), whatever the text and WIDTH are.
  */
-public final class RefusalsTest extends Check {
-    private interface Act {
-        int on(PrettyShapes x);
-    }
-
-    /** A text and a WIDTH. */
-    private static final class State {
-        final String text;
-        final int width;
-
-        State(String text, int width) {
-            this.text = text;
-            this.width = width;
-        }
-    }
-
-    private static final State EMPTY = new State("", 20);
-    private static final State WELL = new State("CHabVab", 20);
-    private static final State OVER = new State("CHabVab", 1);
-    private static final State FAULTY = new State("CHabVabc", 20);
-    private static final State NO_LAYOUT = new State("HCabFVab", 20);
-    private static final State FULL_WELL = new State("N9".repeat(19) + "Fi", 99);
-    private static final State FULL_FAULTY = new State("C".repeat(40), 1);
-    private static final State[] ALL = {EMPTY, WELL, OVER, FAULTY, NO_LAYOUT, FULL_WELL, FULL_FAULTY};
+public final class RefusalsTest extends States {
     private static final State[] NO_DOC = {EMPTY, FAULTY, FULL_FAULTY};
     private static final State[] A_DOC = {WELL, OVER, NO_LAYOUT, FULL_WELL};
     private static final State[] NO_ROOM = {FULL_WELL, FULL_FAULTY};
-
-    private static final int[][] ROWS = {{72, -2, 97}, {300, -300}, {70000, LEAST}};
-    private static final int LOST = 3;
 
     public static void main(String[] args) {
         type();
@@ -57,29 +28,6 @@ public final class RefusalsTest extends Check {
         write();
         count();
         finish("RefusalsTest");
-    }
-
-    /** An object with a row of each FORM, a LOST SHEET, and a FINDING of that number (4 or 5). */
-    private static PrettyShapes ready(State state, int finding) {
-        PrettyShapes x = typed(state.text, state.width);
-        for (int form = 0; form < ROWS.length; form++) {
-            x.sheet(form, form, ROWS[form].length);
-            for (int i = 0; i < ROWS[form].length; i++) x.put(form, form, i, ROWS[form][i]);
-        }
-        if (finding == 5) x.sheet(0, 0, -1); else x.copy(0, 0, 1, 0, 0);
-        return x;
-    }
-
-    /** All that can be seen of it, the bytes of the text one by one; it is used up by that. */
-    private static List<Long> picture(PrettyShapes x) {
-        List<Long> seen = new ArrayList<>();
-        for (int l = 0; l < 3; l++) for (int c = NONE; c < 12; c++) seen.add((long) x.line(l, c));
-        for (int form = 0; form < ROWS.length; form++)
-            for (int i = 0; i < ROWS[form].length; i++) seen.add((long) x.get(form, form, i));
-        for (int s = 0; s < 4; s++) seen.add((long) x.lose(s));
-        seen.add(x.digest());
-        for (int left = x.undo(); left >= 0; left = x.undo()) seen.add(x.digest());
-        return seen;
     }
 
     private static void refused(State[] states, String call, int due, Act act) {
