@@ -1,4 +1,4 @@
-/** What the tests by promise share: objects made ready, answers compared and counted. */
+/** What the tests share: objects made ready, answers compared and counted. */
 abstract class Check {
     static final int NONE = -1, BAD = -2, NOT = -3, FULL = -4;
     static final int NULL = -11, INDEX = -12, CAST = -13, STORE = -14, SIZE = -15;
@@ -24,6 +24,16 @@ abstract class Check {
         failed++;
         String where = sentence.isEmpty() ? "" : " \"" + sentence + "\"";
         System.out.println("promise " + promise + where + ": " + what + " answered " + got + ", due is " + want);
+    }
+
+    /** What is about no promise: the text of the class, the README. */
+    static void holds(String what, boolean good) {
+        if (good) {
+            passed++;
+            return;
+        }
+        failed++;
+        System.out.println("not so: " + what);
     }
 
     static void finish(String name) {

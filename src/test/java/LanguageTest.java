@@ -9,7 +9,7 @@ import java.util.regex.Matcher;
 import java.util.regex.Pattern;
 
 /** The rules of LANGUAGE.md that can be seen from the class and from its text; takes the path of the text. */
-public final class LanguageTest {
+public final class LanguageTest extends Check {
     private static final String[] FACE = {
         "int type(int)", "int wipe()", "int undo()", "int fault()", "int width(int)", "int read(int)", "int part(int,int)",
         "int frontier(int,int,int)", "int tried(int)", "int best(int)", "int line(int,int)", "int way(int,int)",
@@ -21,23 +21,10 @@ public final class LanguageTest {
         "throw", "throws", "try", "catch", "finally", "synchronized", "assert", "import", "package", "->", "::", "Exception",
         "System\\.(?!arraycopy)", "Thread", "Random", "\\w+Exact", "double", "float", "toString", "hashCode", "equals"};
 
-    private static int passed = 0;
-    private static int failed = 0;
-
-    private static void holds(String what, boolean good) {
-        if (good) {
-            passed++;
-        } else {
-            failed++;
-            System.out.println("not so: " + what);
-        }
-    }
-
     public static void main(String[] args) throws Exception {
         face();
         text(Files.readString(Path.of(args[0])));
-        System.out.println("LanguageTest: " + passed + " passed, " + failed + " failed");
-        if (failed != 0) System.exit(1);
+        finish("LanguageTest");
     }
 
     private static void face() throws Exception {

@@ -15,7 +15,7 @@ import java.util.regex.Pattern;
 import javax.tools.ToolProvider;
 
 /** What README.md shows of the class holds: its calls are compiled and run, its commands too. Runs in the project's folder. */
-public final class ReadmeTest {
+public final class ReadmeTest extends Check {
     private static final Path README = Path.of("README.md");
     private static final Path TESTS = Path.of("src/test/java");
     private static final String ALL_TESTS = ".ci/run";
@@ -27,17 +27,6 @@ public final class ReadmeTest {
     private static final List<String> calls = new ArrayList<>();
     private static final StringBuilder printed = new StringBuilder();
     private static final List<String> commands = new ArrayList<>();
-    private static int passed = 0;
-    private static int failed = 0;
-
-    private static void holds(String what, boolean good) {
-        if (good) {
-            passed++;
-        } else {
-            failed++;
-            System.out.println("README.md: " + what);
-        }
-    }
 
     public static void main(String[] args) throws Exception {
         String readme = Files.readString(README);
@@ -45,8 +34,7 @@ public final class ReadmeTest {
         runProgram();
         runCommands();
         namesAll(readme);
-        System.out.println("ReadmeTest: " + passed + " passed, " + failed + " failed");
-        if (failed != 0) System.exit(1);
+        finish("ReadmeTest");
     }
 
     private static void readBlocks(String readme) {
@@ -56,9 +44,9 @@ public final class ReadmeTest {
             else if (m.group(1).equals("text")) printed.append(m.group(2));
             else commands.add(m.group(2));
         }
-        holds("shows no calls", calls.size() > 0);
-        holds("shows nothing that is printed", printed.length() > 0);
-        holds("does not tell to run " + ALL_TESTS, commands.contains(ALL_TESTS + "\n"));
+        holds("README.md shows calls", calls.size() > 0);
+        holds("README.md shows what is printed", printed.length() > 0);
+        holds("README.md tells to run " + ALL_TESTS, commands.contains(ALL_TESTS + "\n"));
     }
 
     /** A call with an answer behind it is asked for both; all other lines stay as they are. */
@@ -66,7 +54,7 @@ public final class ReadmeTest {
         for (String line : block.split("\n")) {
             Matcher m = SHOWN_CALL.matcher(line);
             boolean shown = m.matches();
-            holds("no answer that can be read in: " + line, shown || !line.startsWith("x."));
+            holds("README.md has an answer that can be read in: " + line, shown || !line.startsWith("x."));
             if (!shown) {
                 program.append(line).append('\n');
                 continue;
@@ -84,7 +72,7 @@ public final class ReadmeTest {
             + program + "}\n}\n");
         String classes = System.getProperty("java.class.path");
         int left = ToolProvider.getSystemJavaCompiler().run(null, null, null, "-cp", classes, "-d", folder.toString(), source.toString());
-        holds("what it shows does not compile", left == 0);
+        holds("what README.md shows compiles", left == 0);
         if (left == 0) compare(folder);
         Files.deleteIfExists(folder.resolve(SHOWN + ".class"));
         Files.deleteIfExists(source);
@@ -103,32 +91,32 @@ public final class ReadmeTest {
         }
         for (int c = 0; c < calls.size(); c++) {
             long got = seen.get(2 * c), due = seen.get(2 * c + 1);
-            holds("shows " + due + " for " + calls.get(c) + ", the answer is " + got, got == due);
+            holds(calls.get(c) + " answers " + due + " as README.md shows (it is " + got + ")", got == due);
         }
         String got = out.toString().replace(System.lineSeparator(), "\n");
-        holds("shows\n" + printed + "where this is printed:\n" + got, got.contentEquals(printed));
+        holds("README.md shows what is printed, which is\n" + got, got.contentEquals(printed));
     }
 
     private static void runCommands() throws IOException, InterruptedException {
-        holds(ALL_TESTS + " can't be run", Files.isExecutable(Path.of(ALL_TESTS)));
+        holds(ALL_TESTS + " can be run", Files.isExecutable(Path.of(ALL_TESTS)));
         for (String block : commands) {
             // That one runs this test, and so would never end.
             if (block.contains(ALL_TESTS)) continue;
             Process p = new ProcessBuilder("sh", "-e", "-c", block).redirectErrorStream(true).start();
             p.getOutputStream().close();
             String said = new String(p.getInputStream().readAllBytes());
-            holds("these commands fail:\n" + block + said, p.waitFor() == 0);
+            holds("these commands of README.md end well:\n" + block + said, p.waitFor() == 0);
         }
     }
 
     private static void namesAll(String readme) throws IOException {
         for (Method m : PrettyShapes.class.getDeclaredMethods()) {
-            if (Modifier.isPublic(m.getModifiers())) holds("does not name " + m.getName(), readme.contains("| `" + m.getName() + "("));
+            if (Modifier.isPublic(m.getModifiers())) holds("README.md names " + m.getName(), readme.contains("| `" + m.getName() + "("));
         }
         try (DirectoryStream<Path> tests = Files.newDirectoryStream(TESTS, "*Test.java")) {
-            for (Path test : tests) holds("does not name " + test, readme.contains("- `" + test + "`") || readme.contains(", `" + test + "`"));
+            for (Path test : tests) holds("README.md names " + test, readme.contains("- `" + test + "`") || readme.contains(", `" + test + "`"));
         }
         Matcher named = Pattern.compile("`((?:src|\\.ci)/[^`]*)`").matcher(readme);
-        while (named.find()) holds("names " + named.group(1) + ", which is not there", Files.exists(Path.of(named.group(1))));
+        while (named.find()) holds("README.md names " + named.group(1) + ", which is there", Files.exists(Path.of(named.group(1))));
     }
 }
